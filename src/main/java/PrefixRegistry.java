@@ -537,7 +537,10 @@ public final class PrefixRegistry {
         // The largest prefix that begins where the last one ended is a block: a larger free one
         // round it would have been met before.
         boolean step() {
-            skipUsed();
+            for (int n = 0; n < MOST_RECORDS && child != NONE && records.start(child) == at; n++) {
+                at += records.size(child);
+                child = records.nextChild[child];
+            }
             if (at >= end) {
                 return false;
             }
@@ -548,13 +551,6 @@ public final class PrefixRegistry {
             length = Math.max(lengthByStart, lengthByRoom);
             at += sizeOf(length);
             return true;
-        }
-
-        private void skipUsed() {
-            for (int n = 0; n < MOST_RECORDS && child != NONE && records.start(child) == at; n++) {
-                at += records.size(child);
-                child = records.nextChild[child];
-            }
         }
 
         boolean goTo(int record, int k) {

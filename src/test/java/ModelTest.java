@@ -145,8 +145,8 @@ public final class ModelTest {
     private Object[] askArguments() {
         int record = recordOf(1);
         int own = model.told(0) > record && record >= 0 ? model.field(record, 1) : 8;
-        int length = random.nextInt(10) == 0 ? near(0, 32) : own + 1 + random.nextInt(Math.max(1, Math.min(8, 32 - own)));
-        return new Object[] {record, length, random.nextBoolean()};
+        int longer = 1 + random.nextInt(Math.max(1, Math.min(8, 32 - own)));
+        return new Object[] {record, random.nextInt(10) == 0 ? near(0, 32) : own + longer, random.nextBoolean()};
     }
 
     private Object[] reserveArguments() {
