@@ -32,6 +32,10 @@ final class Checks {
         }), "throws." + want.getSimpleName());
     }
 
+    int seen() {
+        return seen;
+    }
+
     void finish(String name) {
         System.out.println(name + ": " + seen + " checks, " + wrong + " wrong");
         if (wrong != 0) {

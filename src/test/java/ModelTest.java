@@ -23,6 +23,11 @@ public final class ModelTest {
         "holderOf", "field", "field", "told", "freeAt", "blocks", "block", "block", "used", "cuts", "cut", "cut",
         "log", "replay", "same"};
 
+    // No number may break a call: among these are those whose multiples and sums wrap around.
+    private static final int[] WILD = {
+        Integer.MIN_VALUE, Integer.MAX_VALUE, Integer.MIN_VALUE + 1, -2, -32, 33, 64, 1 << 30, 1 << 29, -1 << 30, 200,
+        300, 512, 1000, 10000, 100000};
+
     private final Checks checks = new Checks();
     private final Map<String, Integer> answers = new HashMap<>();
     private final Map<String, Method[]> methods = new HashMap<>();
@@ -69,7 +74,7 @@ public final class ModelTest {
         List<String> told = new ArrayList<>();
         for (int n = 0; n < CALLS_OF_OBJECT; n++) {
             String name = n < 3 ? "root" : draw(random.nextInt(100) < changeShare ? changes : LOOKS);
-            Object[] arguments = argumentsOf(name);
+            Object[] arguments = sometimesWild(argumentsOf(name));
             String want = outcome(model, 1, name, arguments);
             String got = outcome(program, 0, name, arguments);
             answers.merge(name + " " + want, 1, Integer::sum);
@@ -132,6 +137,15 @@ public final class ModelTest {
             case "replay": return new Object[] {random.nextBoolean() ? model.told(3) : near(0, model.told(3))};
             default: return new Object[0];
         }
+    }
+
+    private Object[] sometimesWild(Object[] arguments) {
+        int which = random.nextInt(WILD.length * 12);
+        int place = arguments.length == 0 ? 0 : random.nextInt(arguments.length);
+        if (which < WILD.length && arguments.length > 0 && arguments[place] instanceof Integer) {
+            arguments[place] = WILD[which];
+        }
+        return arguments;
     }
 
     private Object[] rootArguments() {
