@@ -207,7 +207,7 @@ public final class ChangeEdgeTest extends Edges {
             .says(ask(0, 27, true), 7).has(7, 224, 27).refuses(ask(0, 27, true), TAKEN)
             .says(ask(0, 32, true), 8).has(8, 0, 32);
         on(root(0, 0, 1), ask(0, 32, true)).says(ask(0, 32, true), 2).has(2, LOW, 32).says(ask(0, 32, true), 3)
-            .has(3, 1 << 30, 32).says(ask(0, 32, true), 4).has(4, LOW + (1 << 30), 32).says(ask(0, 1, true), TAKEN);
+            .has(3, 1 << 30, 32).says(ask(0, 32, true), 4).has(4, LOW + (1 << 30), 32).refuses(ask(0, 1, true), TAKEN);
         on(root(0, 0, 1), reserve(0, -1, 32)).says(ask(0, 32, true), 2).has(2, 0, 32);
     }
 
@@ -533,14 +533,17 @@ public final class ChangeEdgeTest extends Edges {
         sentence("Promise 10", "The POLICY of a level.");
         for (int level = 0; level <= 3; level++) {
             int length = 10 + 2 * level;
-            Object atQuarter = level == 3 ? POLICY : 5;
             on(stairs(), policy(level, 1000)).refuses(ask(level, length, false), POLICY)
                 .says(policy(level, 0), DONE).says(ask(level, length, false), 5);
-            on(stairs(), policy(level, 1)).says(ask(level, length, false), atQuarter);
-            on(stairs(), policy(level, 250)).says(ask(level, length, false), atQuarter);
             on(stairs(), policy(level, 251)).refuses(ask(level, length, false), POLICY);
-            on(stairs(), policy(level, 1000), policy(level, 250)).says(ask(level, length, false), atQuarter);
         }
+        for (int level = 0; level <= 2; level++) {
+            int length = 10 + 2 * level;
+            on(stairs(), policy(level, 250)).says(ask(level, length, false), 5);
+            on(stairs(), policy(level, 1000), policy(level, 250)).says(ask(level, length, false), 5);
+        }
+        on(stairs(), policy(3, 1)).refuses(ask(3, 16, false), POLICY).says(policy(3, 0), DONE)
+            .says(ask(3, 16, false), 5);
     }
 
     private static void policyRefuses() {

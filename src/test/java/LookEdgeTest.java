@@ -189,7 +189,7 @@ public final class LookEdgeTest extends Edges {
         }
         story.says(blocks(0), 199 * 24 + 4).says(block(0, 199 * 24, false), 199 << 24)
             .says(block(0, 199 * 24, true), 8).says(block(0, 199 * 24 + 3, true), 3)
-            .says(block(0, 199 * 24 + 4, true), INDEX);
+            .refuses(block(0, 199 * 24 + 4, true), INDEX);
     }
 
     private static void blocksWithoutRecord() {
@@ -261,7 +261,7 @@ public final class LookEdgeTest extends Edges {
         for (int n = 0; n < 199; n++) {
             many.says(ask(0, 9, false), n + 1);
         }
-        many.says(cuts(0), 199 * 8).says(cut(0, 1591, false), (198 << 23) + (7 << 20)).says(cut(0, 1592, true), INDEX);
+        many.says(cuts(0), 199 * 8).says(cut(0, 1591, false), (198 << 23) + (7 << 20)).refuses(cut(0, 1592, true), INDEX);
     }
 
     private static void cutsOfEachLength() {

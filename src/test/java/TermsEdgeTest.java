@@ -116,7 +116,8 @@ public final class TermsEdgeTest extends Edges {
             Story story = on().refuses(root(1, n, 1), ARGUMENT).refuses(root(high, n, 1), ARGUMENT)
                 .refuses(root(-1, n, 1), ARGUMENT);
             if (n > 0) {
-                story.says(root(high << 1, n, 1), 0).says(root(-sizeOf(n), n, 1), n == 1 ? STATE : "1");
+                story.says(root(high << 1, n, 1), 0).says(root(0, n, 1), 1);
+                on().says(root(-sizeOf(n), n, 1), 0);
             } else {
                 story.says(root(0, n, 1), 0);
             }
