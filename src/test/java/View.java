@@ -2,7 +2,8 @@ import java.util.ArrayList;
 import java.util.List;
 
 /**
- * All that can be seen after a run of calls. An object is looked at only as long as the document
+ * What can be seen after a run of calls: every record and entry, the second registry, and of the
+ * first records the blocks and cuts. An object is looked at only as long as the document
  * promises its answers: then the run is made anew, and the looking goes on.
  */
 final class View extends Calls {
