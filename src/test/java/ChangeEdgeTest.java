@@ -212,7 +212,9 @@ public final class ChangeEdgeTest extends Edges {
     }
 
     private static void askWithRoomInsideTheRecord() {
-        sentence("Promise 3", "how often, from it upward, the sibling is free and inside the record");
+        sentence("Promise 3",
+            "with room: for each free prefix of the length inside the record let its chain be how often, from it"
+                + " upward, the sibling is free and inside the record");
         on(root(LOW - 256, 24, 1), reserve(0, LOW - 256, 25)).says(ask(0, 26, true), 2).has(2, LOW - 128, 26)
             .says(ask(0, 27, true), 3).has(3, LOW - 64, 27);
         on(ten(), ask(0, 10, false)).says(ask(1, 11, true), 2).has(2, TEN, 11).says(ask(1, 32, true), 3)

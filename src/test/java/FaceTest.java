@@ -3,9 +3,7 @@ import java.lang.reflect.Constructor;
 import java.lang.reflect.Field;
 import java.lang.reflect.Method;
 import java.lang.reflect.Modifier;
-import java.util.ArrayList;
 import java.util.Arrays;
-import java.util.List;
 import java.util.TreeSet;
 
 /** The public face is the document's and no more; calls keep the room small. */
@@ -56,34 +54,32 @@ public final class FaceTest {
     }
 
     private static void methods() {
-        List<String> seen = new ArrayList<>();
+        TreeSet<String> seen = new TreeSet<>();
         TreeSet<String> open = new TreeSet<>();
-        TreeSet<String> hidden = new TreeSet<>();
-        for (Method m : PrefixRegistry.class.getDeclaredMethods()) {
-            if (Modifier.isPrivate(m.getModifiers())) {
-                hidden.add(m.getName());
-            } else if (!m.isSynthetic()) {
-                seen.add(textOf(m));
-                open.add(m.getName());
-                CHECKS.due(m.getName() + " is", Modifier.toString(m.getModifiers()), "public");
-            }
+        for (Method m : Face.methods()) {
+            seen.add(Face.textOf(m));
+            open.add(m.getName());
+            CHECKS.due(m.getName() + " is", Modifier.toString(m.getModifiers()), "public");
         }
-        CHECKS.due("methods", new TreeSet<>(seen), new TreeSet<>(Arrays.asList(FACE)));
+        CHECKS.due("methods", seen, new TreeSet<>(Arrays.asList(FACE)));
+        TreeSet<String> hidden = hiddenMethods();
         hidden.retainAll(open);
         CHECKS.due("private methods with a public one's name", hidden, "[]");
     }
 
-    private static String textOf(Method m) {
-        StringBuilder text = new StringBuilder(m.getReturnType().getSimpleName()).append(' ').append(m.getName());
-        List<String> types = new ArrayList<>();
-        for (Class<?> type : m.getParameterTypes()) {
-            types.add(type.getSimpleName());
+    private static TreeSet<String> hiddenMethods() {
+        TreeSet<String> hidden = new TreeSet<>();
+        for (Method m : PrefixRegistry.class.getDeclaredMethods()) {
+            if (Modifier.isPrivate(m.getModifiers())) {
+                hidden.add(m.getName());
+            }
         }
-        text.append('(').append(String.join(", ", types)).append(')');
-        for (Class<?> thrown : m.getExceptionTypes()) {
-            text.append(' ').append(thrown.getSimpleName());
+        for (Class<?> inside : PrefixRegistry.class.getDeclaredClasses()) {
+            for (Method m : inside.getDeclaredMethods()) {
+                hidden.add(m.getName());
+            }
         }
-        return text.toString();
+        return hidden;
     }
 
     private static void constants() {

@@ -261,7 +261,8 @@ public final class LookEdgeTest extends Edges {
         for (int n = 0; n < 199; n++) {
             many.says(ask(0, 9, false), n + 1);
         }
-        many.says(cuts(0), 199 * 8).says(cut(0, 1591, false), (198 << 23) + (7 << 20)).refuses(cut(0, 1592, true), INDEX);
+        many.says(cuts(0), 199 * 8).says(cut(0, 1591, false), (198 << 23) + (7 << 20))
+            .refuses(cut(0, 1592, true), INDEX);
     }
 
     private static void cutsOfEachLength() {

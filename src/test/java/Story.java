@@ -37,6 +37,11 @@ final class Story {
 
     /** The call is refused as is due, and nothing has changed. */
     Story refuses(Call call, Object want) {
+        return keeps(call, want);
+    }
+
+    /** The call answers as is due, and nothing has changed. */
+    Story keeps(Call call, Object want) {
         List<String> before = view == null ? View.of(calls) : view;
         checks.due(name + ": " + call.words(), answer(call), want);
         view = View.of(calls);

@@ -4,6 +4,7 @@ import java.util.List;
 /** The boundaries that "What it is" and "Terms" name, sentence by sentence. */
 public final class TermsEdgeTest extends Edges {
     public static void main(String[] args) {
+        allThatItDoes();
         manyCalls();
         addresses();
         addressesByOrder();
@@ -23,14 +24,17 @@ public final class TermsEdgeTest extends Edges {
         blocksOfRecords();
         daysAtFirst();
         policiesAtFirst();
+        policyBelowItsLevel();
         policyIsMetByNotLess();
         policyCountsSomeChildren();
         policyOfManyAddresses();
         codesNotGiven();
         codesInOrder();
+        codeShape();
         codeDeep();
         codeFull();
         codePolicy();
+        codeTaken();
         logEntries();
         logEntriesOfAccepted();
         fullLogRefuses();
@@ -39,11 +43,31 @@ public final class TermsEdgeTest extends Edges {
         secondAtFirst();
         refusedChangesNothing();
         firstExceptionThatFits();
+        looksChangeNothing();
+        objectsAreApart();
         finish("TermsEdgeTest");
     }
 
+    private static void allThatItDoes() {
+        sentence("What it is",
+            "Hands out prefixes of 32-bit addresses in levels, one below the other: by best fit or with room to grow,"
+                + " with reserving, growing and halving in place, quarantine, policies of use, whole trees that change"
+                + " their holder, cuts for reverse zones, and a log from which all is built again.");
+        on().says(root(TEN, 8, 7), 0).says(ask(0, 16, false), 1).says(ask(1, 23, false), 2).says(ask(0, 16, false), 3)
+            .has(3, TEN + (1 << 16), 16, 0, 1).says(ask(0, 16, true), 4).has(4, TEN + (1 << 23), 16, 0, 1)
+            .has(2, TEN, 23, 1, 2).says(reserve(0, 0x0AFF0000, 16), 5).says(grow(4), 15).has(4, TEN + (1 << 23), 15)
+            .says(shrink(4, true), 16).has(4, TEN + (1 << 23) + (1 << 16), 16).says(quarantine(2), DONE)
+            .says(back(3), 2).refuses(reserve(0, TEN + (1 << 16), 16), TAKEN).says(day(2), 1)
+            .says(transfer(4, 8), 1).says(policy(0, 8), DONE).refuses(ask(0, 16, false), POLICY)
+            .says(transfer(1, 9), 2).says(field(1, 4), 9).says(field(2, 4), 9).says(field(0, 4), 7)
+            .says(ask(0, 16, false), 6).has(6, TEN + (1 << 16), 16, 0, 1, 7).says(cuts(0), 3).says(cuts(1), 2)
+            .says(cut(1, 1, false), TEN + 256).says(cut(1, 1, true), 24).says(told(3), 15).says(same(), false)
+            .says(replay(15), 7).says(same(), true);
+    }
+
     private static void manyCalls() {
-        sentence("What it is", "An object is used for at most 512 calls after it has been made");
+        sentence("What it is",
+            "An object is used for at most 512 calls after it has been made; what later calls answer is free.");
         List<Call> full = then(crowd(200));
         full.addAll(Collections.nCopies(100, transfer(0, 7)));
         Story story = on(full);
@@ -172,7 +196,9 @@ public final class TermsEdgeTest extends Edges {
     }
 
     private static void parents() {
-        sentence("Terms", "a PARENT, another record, or none (a TOP block)");
+        sentence("Terms", "Each has a prefix; a PARENT, another record, or none (a TOP block)");
+        on(ten(), root(LOW, 31, 1), ask(0, 9, true), reserve(1, LOW + 1, 32)).has(0, TEN, 8, NONE).has(1, LOW, 31, NONE)
+            .has(2, TEN, 9, 0).has(3, LOW + 1, 32, 1);
         on(ten(), root(0, 8, 1)).says(field(0, 2), NONE).says(field(1, 2), NONE).says(ask(1, 9, false), 2)
             .says(field(2, 2), 1).says(ask(0, 9, true), 3).says(field(3, 2), 0).says(reserve(2, 0, 10), 4)
             .says(field(4, 2), 2).says(back(4), 0).says(field(4, 2), 2);
@@ -286,6 +312,17 @@ public final class TermsEdgeTest extends Edges {
             .refuses(policy(0, -1), ARGUMENT).refuses(policy(0, 1001), ARGUMENT);
     }
 
+    private static void policyBelowItsLevel() {
+        sentence("Terms", "it is MET below a record of that level if of each of its GIVEN children");
+        on(ten(), root(0, 8, 7), ask(0, 16, false), policy(0, 1)).refuses(ask(0, 16, false), POLICY)
+            .says(ask(1, 16, false), 3).refuses(ask(1, 16, false), POLICY).says(ask(2, 20, false), 4)
+            .says(ask(0, 16, false), 5);
+        on(stairs(), ask(0, 10, false), policy(0, 250)).refuses(ask(0, 10, false), POLICY).says(ask(5, 12, false), 6)
+            .says(ask(0, 10, false), 7).refuses(ask(0, 10, false), POLICY);
+        on(stairs(), ask(1, 12, false), policy(0, 250)).says(ask(0, 10, false), 6);
+        on(stairs(), policy(1, 250), ask(1, 12, false)).refuses(ask(1, 12, false), POLICY).says(ask(0, 10, false), 6);
+    }
+
     private static void policyIsMetByNotLess() {
         sentence("Terms", "the used addresses, times 1000, are not less than all its addresses times the policy.");
         List<Call> quarter = run(root(0, 8, 1), ask(0, 24, false), ask(1, 26, false));
@@ -360,6 +397,14 @@ public final class TermsEdgeTest extends Edges {
         on(states()).refuses(shrink(0, true), NOT_GIVEN).refuses(grow(0), NOT_GIVEN);
     }
 
+    private static void codeShape() {
+        sentence("Terms", "SHAPE: as the call says.");
+        on(ten(), reserve(0, TEN + 1, 32), give(1)).refuses(ask(0, 8, true), SHAPE).refuses(ask(1, 33, true), SHAPE)
+            .refuses(reserve(0, TEN + 1, 24), SHAPE).refuses(reserve(0, 0, 24), SHAPE)
+            .refuses(shrink(1, true), SHAPE).says(grow(1), 31).says(shrink(1, true), 32).has(1, TEN + 1, 32);
+        on(root(0, 31, 1), ask(0, 32, false), grow(1)).refuses(grow(1), SHAPE).refuses(ask(0, 31, false), SHAPE);
+    }
+
     private static void codeDeep() {
         sentence("Terms", "DEEP: the record has level 4.");
         on(stairs()).refuses(ask(4, 16, false), SHAPE).refuses(ask(4, 33, false), SHAPE)
@@ -390,10 +435,18 @@ public final class TermsEdgeTest extends Edges {
             .says(ask(2, 14, false), 5);
     }
 
+    private static void codeTaken() {
+        sentence("Terms", "TAKEN: as the call says.");
+        on(filled()).refuses(ask(0, 32, true), TAKEN).refuses(reserve(0, LOW - 1, 32), TAKEN).refuses(grow(2), TAKEN)
+            .says(reserve(1, LOW - 4, 32), 4).refuses(shrink(1, true), TAKEN).says(shrink(1, false), 32)
+            .says(ask(0, 32, true), 5).has(5, LOW - 3, 32);
+    }
+
     private static void logEntries() {
         sentence("Terms",
-            "the kind, 1 .. 11 in this order, and its arguments (0 for those that it has not, 1 and 0 for true"
-                + " and false).");
+            "THE LOG has an ENTRY for each call that was accepted of root(), ask(), reserve(), give(), back(), grow(),"
+                + " shrink(), transfer(), policy(), day(), quarantine(), in their order: the kind, 1 .. 11 in this"
+                + " order, and its arguments (0 for those that it has not, 1 and 0 for true and false).");
         Call[] calls = {
             root(-256, 24, 9999), ask(0, 27, true), ask(0, 28, false), reserve(0, -1, 32), give(3), back(3), grow(2),
             shrink(2, true), shrink(2, false), transfer(2, 9998), policy(3, 1000), day(100000), quarantine(1000)};
@@ -520,5 +573,28 @@ public final class TermsEdgeTest extends Edges {
             .refuses(field(5, 7), INDEX).refuses(field(4, 7), ARGUMENT).refuses(freeAt(5, 33), INDEX)
             .refuses(freeAt(4, 33), ARGUMENT).refuses(log(8, 4), INDEX).refuses(log(7, 4), ARGUMENT)
             .refuses(give(5), INDEX).refuses(give(4), STATE).refuses(back(5), INDEX).refuses(back(4), STATE);
+    }
+
+    private static void looksChangeNothing() {
+        sentence("Not promised", "Nothing is promised beyond the answers and state changes described above");
+        for (int replayed : new int[] {0, 6, 8}) {
+            on(states(), policy(0, 1), replay(replayed)).keeps(holderOf(TEN, 1), 1).keeps(field(3, 6), 5)
+                .keeps(told(3), 9).keeps(freeAt(0, 16), 253).keeps(blocks(0), 7).keeps(block(0, 6, true), 9)
+                .keeps(used(0), 3 << 16).keeps(cuts(0), 1).keeps(cut(0, 0, false), TEN).keeps(log(8, 2), 1)
+                .keeps(same(), false).keeps(replay(replayed), replayed == 0 ? 0 : 5);
+        }
+    }
+
+    private static void objectsAreApart() {
+        sentence("Not promised", "the answers and state changes described above");
+        PrefixRegistry one = new PrefixRegistry();
+        PrefixRegistry other = new PrefixRegistry();
+        for (Call call : then(states(), policy(3, 9), day(3), replay(10))) {
+            call.on(one);
+        }
+        CHECKS.due("a new object beside another", Snapshot.of(other), Snapshot.of(new PrefixRegistry()));
+        root(0, 0, 1).on(other);
+        CHECKS.due("an object beside a changed one", field(0, 0).on(one), TEN);
+        CHECKS.due("its second registry", same().on(one), true);
     }
 }
